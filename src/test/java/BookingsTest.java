@@ -217,6 +217,10 @@ public final class BookingsTest {
         CHECK.due("who came first", 2, x.holding(10, 0));
         x.cancel(1, 20);
         CHECK.due("then by numbers among them", 4, x.holding(20, 0));
+        VillageHalls y = new VillageHalls();
+        Check.book(y, 0, 0, 364, 40, 48, 1, 1, 0, 0);
+        Check.book(y, 0, 0, 364, 40, 48, 1, 0, 0, 364);
+        CHECK.due("no CAME is ahead of a RANK", 2, y.holding(364, 0));
     }
 
     private static void fire() {
@@ -247,6 +251,11 @@ public final class BookingsTest {
         x.cancel(2, 25);
         Check.rules(x, "hall 0 licences 2;");
         CHECK.due("of those that hold", 1 | 2 | 8 | 32, x.holding(100, 0));
+        VillageHalls y = new VillageHalls();
+        Check.rules(y, "hall 0 licences 1;");
+        Check.book(y, 0, 0, 10, 0, 4, 1, 1, 1, 1);
+        Check.book(y, 0, 0, 20, 0, 4, 1, 1, 1, 2);
+        CHECK.due("one licence goes to the first", 1, y.holding(100, 0));
     }
 
     // One that does not hold keeps nobody out.

@@ -154,6 +154,12 @@ public final class FuneralTest {
         Check.book(x, 0, 0, 100, 40, 44, 1, 1, 0, 0);
         Check.book(x, 0, 0, 100, 48, 52, 1, 2, 0, 0);
         due(x, at(0, 100, 40, 52, 1), 0, 3, 0, 2, 3, 2);
+        VillageHalls y = new VillageHalls();
+        Check.rules(y, "hall 0 fire 0 100 fire 1 0 setup 0;hall 1 setup 8;");
+        Check.book(y, 0, 0, 100, 40, 44, 1, 2, 0, 0);
+        Check.book(y, 0, 0, 100, 44, 48, 1, 1, 0, 0);
+        Check.book(y, 0, 0, 100, 48, 52, 1, 0, 0, 0);
+        due(y, at(0, 100, 40, 52, 1), 0, 3, 0, 2, 3, 4);
     }
 
     // One that is to be moved, too, does not stand in the way; nor does one that finds no place.

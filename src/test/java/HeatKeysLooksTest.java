@@ -90,6 +90,7 @@ public final class HeatKeysLooksTest {
         CHECK.due("115 of 100", 1, x.meter(1, 10, 96, 115));
         CHECK.due("116 of 100", 0, x.meter(1, 10, 96, 116));
         CHECK.due("100000 of 100", 0, x.meter(1, 10, 96, 100000));
+        CHECK.due("0 of 0", 1, x.meter(1, 10, 0, 0));
         CHECK.due("15 of 0", 1, x.meter(1, 10, 0, 15));
         CHECK.due("16 of 0", 0, x.meter(1, 10, 0, 16));
     }

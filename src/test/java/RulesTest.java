@@ -224,6 +224,17 @@ public final class RulesTest {
         CHECK.due("keeps what was done ahead", 5, x.hall(1, 0));
         CHECK.due("a good text", 1, Check.rules(x, "hall 1 setup 0;"));
         CHECK.due("the latest fault stays", 2, x.fault());
+        for (int h = 0; h < 4; h++) {
+            VillageHalls y = new VillageHalls();
+            Check.rules(y, "hall " + h + " setup 5 first school late 1 1 fire 0 1 rate club 1;!");
+            CHECK.due("a good text behind a fault", 1, Check.rules(y, "hall " + h + " licences 3;"));
+            int[] rest = {2, 3, 7, 50, 100, 100};
+            for (int i = 0; i < 6; i++) {
+                CHECK.due("hall(" + h + ", " + i + ") has nothing of the fault's text", rest[i], y.hall(h, i));
+            }
+            CHECK.due("RATE", 10, y.hall(h, 12));
+            CHECK.due("RANK", 4, y.hall(h, 24));
+        }
     }
 
     private static void hallsAtFirst() {
