@@ -409,7 +409,7 @@ public final class VillageHalls {
         for (int k = 0; k < diary.size; k++) {
             Booking b = diary.get(k);
             boolean counts = (held >> k & 1) == 1 && b.hall == hall;
-            if (counts && moment(b.day, b.from) < with && moment(b.day, b.to) > without) {
+            if (counts && isPartlyBetween(b, without, with)) {
                 if (only != NONE) {
                     return NONE;
                 }
@@ -417,6 +417,11 @@ public final class VillageHalls {
             }
         }
         return only;
+    }
+
+    // Told by the time that both share, so that looks of one quarter, with no time between them, share none.
+    private static boolean isPartlyBetween(Booking b, int start, int end) {
+        return Math.max(moment(b.day, b.from), start) < Math.min(moment(b.day, b.to), end);
     }
 
     private int howManyOf(int kind) {

@@ -14,6 +14,7 @@ public final class HeatKeysLooksTest {
         homeOfThoseThatHold();
         homeAtEdges();
         homeOfLooksOfOneTime();
+        homeOfLooksWithNoTimeBetween();
         CHECK.end();
     }
 
@@ -249,5 +250,27 @@ public final class HeatKeysLooksTest {
         y.look(0, 100, 50, 0);
         y.look(0, 100, 50, 1);
         CHECK.due("the one without it was told ahead", Check.NONE, y.home(0, 0));
+    }
+
+    private static void homeOfLooksWithNoTimeBetween() {
+        int[] quarters = {39, 40, 41, 44, 47, 48, 49};
+        for (int quarter : quarters) {
+            VillageHalls x = new VillageHalls();
+            Check.book(x, 0, 0, 100, 40, 48, 1, 1, 0, 0);
+            x.look(0, 100, quarter, 0);
+            x.look(0, 100, quarter, 4);
+            CHECK.due("both looks at quarter " + quarter, Check.NONE, x.home(0, 2));
+            x.look(0, 100, 0, 0);
+            CHECK.due("the last without it is still that one, " + quarter, Check.NONE, x.home(0, 2));
+        }
+        VillageHalls y = new VillageHalls();
+        Check.book(y, 0, 0, 100, 40, 48, 1, 1, 0, 0);
+        y.look(0, 100, 44, 4);
+        y.look(0, 100, 43, 0);
+        CHECK.due("one quarter of time between", 0, y.home(0, 2));
+        y.look(0, 100, 44, 0);
+        CHECK.due("one without it told behind changes nothing", 0, y.home(0, 2));
+        Check.book(y, 0, 1, 100, 43, 44, 1, 1, 0, 0);
+        CHECK.due("both are there in that quarter", Check.NONE, y.home(0, 2));
     }
 }

@@ -431,6 +431,7 @@ final class Model {
         if (with == rows.size() || with == 0) return NONE;
         int a = rows.get(with - 1)[0];
         int b = rows.get(with)[0];
+        if (a == b) return NONE;
         List<Hire> between = held(364).stream().filter(h -> h.hall() == hall && h.day() * 96 + h.from() < b
             && a < h.day() * 96 + h.to()).toList();
         return between.size() == 1 ? between.get(0).number() : NONE;
